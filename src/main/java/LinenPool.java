@@ -19,6 +19,7 @@ public final class LinenPool {
     private static final int LAST_WANTED_DAY = 1010;
     private static final int MOST_BYTES = 400;
     private static final long NO_VALUE = -2_000_000_000_000L;
+    private static final Kind[] KINDS = Kind.values();
 
     private final Sorts sorts = new Sorts();
     private final Houses houses = new Houses();
@@ -490,9 +491,8 @@ public final class LinenPool {
             int step = grams[sort];
             for (int weight = top; weight >= step; weight--) {
                 int all = ways[weight];
-                int lowest = Math.max(0, weight - pieces[sort] * step);
-                for (int rest = weight - step; rest >= lowest; rest -= step) {
-                    all += ways[rest];
+                for (int n = 1; n <= pieces[sort] && n * step <= weight; n++) {
+                    all += ways[weight - n * step];
                 }
                 ways[weight] = all;
             }
@@ -892,15 +892,12 @@ public final class LinenPool {
 
     /** What a token or a part of TERMS is; those that stand as a word in the text bear it. */
     private enum Kind {
-        LET("let", NONE), PRICE("price", NONE), LOSS("loss", NONE), RETIRE("retire", NONE),
-        FEAST("feast", NONE), MIX("mix", NONE), HEAT("heat", NONE),
-        HOUSE("house", NONE), WORKS("works", NONE), POOL("pool", NONE),
-        TO("to", NONE), BY("by", NONE), WITH("with", NONE), FOR("for", NONE),
-        IF("if", NONE), THEN("then", NONE), ELSE("else", NONE), MIN("min", NONE), MAX("max", NONE),
-        OR("or", NONE), AND("and", NONE), NOT("not", NONE),
+        LET("let"), PRICE("price"), LOSS("loss"), RETIRE("retire"), FEAST("feast"), MIX("mix"), HEAT("heat"),
+        HOUSE("house"), WORKS("works"), POOL("pool"), TO("to"), BY("by"), WITH("with"), FOR("for"),
+        IF("if"), THEN("then"), ELSE("else"), MIN("min"), MAX("max"), OR("or"), AND("and"), NOT("not"),
         WASHES("washes", 0), AGE("age", 1), LIFE("life", 2), WORTH("worth", 3), GRAMS("grams", 4),
         SORT("sort", 5), CLASS("kind", 6), DAYS("days", 7), MISSES("misses", 8), DAY("day", 9),
-        NUMBER("", NONE), NAME("", NONE), SUM("", NONE), PROD("", NONE), MINUS("", NONE), COMPARE("", NONE);
+        NUMBER(""), NAME(""), SUM(""), PROD(""), MINUS(""), COMPARE("");
 
         /** How many things hold where an EX is asked. */
         static final int HELD = 10;
@@ -909,13 +906,15 @@ public final class LinenPool {
         /** Where what holds is kept: NONE, if this isn't such a WORD. */
         final int slot;
 
+        Kind(String word) {
+            this(word, NONE);
+        }
+
         Kind(String word, int slot) {
             this.word = word;
             this.slot = slot;
         }
     }
-
-    private static final Kind[] KINDS = Kind.values();
 
     /** A part of TERMS: a statement, or of an EX or COND; its own parts are chained behind the first. */
     private static final class Node {
@@ -1120,11 +1119,12 @@ public final class LinenPool {
         private static final int MOST_OPEN = 10;
         private static final int MOST_DIGITS = 9;
         private static final int MOST_LETTERS = 8;
-        /** What a token is, where it's no sign (which is told by itself). */
+        /** What a token (or a byte) is, where it's no sign, which is told by itself. */
         private static final char END = 1;
         private static final char LETTERS = 2;
         private static final char DIGITS = 3;
-        private static final char NOTHING = 4;
+        private static final char BLANK = 4;
+        private static final char NOTHING = 5;
 
         private char[] text = new char[0];
         private int length;
@@ -1185,15 +1185,21 @@ public final class LinenPool {
         /** Each token takes a byte at least, so that all of them and END have room. */
         private void scanAll() {
             int count = 0;
-            int place = 0;
-            while (place < length) {
-                if (text[place] != ' ' && text[place] != '\n') {
-                    scan(count, place);
-                    place = ends[count];
+            for (int place = 0; place < length; place++) {
+                char kind = kindOf(text[place]);
+                boolean isLong = kind == LETTERS || kind == DIGITS;
+                if (isLong && count > 0 && tokens[count - 1] == kind && ends[count - 1] == place) {
+                    ends[count - 1]++;
+                } else if (kind != BLANK) {
+                    starts[count] = place;
+                    ends[count] = place + 1;
+                    tokens[count] = kind;
                     count++;
-                } else {
-                    place++;
                 }
+            }
+            for (int i = 0; i < count; i++) {
+                words[i] = tokens[i] == LETTERS ? wordOf(i) : null;
+                readDigits(i);
             }
             starts[count] = length;
             ends[count] = length;
@@ -1201,37 +1207,38 @@ public final class LinenPool {
             words[count] = null;
         }
 
-        private void scan(int i, int place) {
-            starts[i] = place;
-            ends[i] = place + 1;
-            words[i] = null;
-            if (isLetter(text[place])) {
-                scanWord(i);
-            } else if (isDigit(text[place])) {
-                scanNumber(i);
-            } else {
-                tokens[i] = SIGNS.indexOf(text[place]) >= 0 ? text[place] : NOTHING;
+        private static char kindOf(char c) {
+            if (c == ' ' || c == '\n') {
+                return BLANK;
             }
+            if (isLetter(c)) {
+                return LETTERS;
+            }
+            if (isDigit(c)) {
+                return DIGITS;
+            }
+            return SIGNS.indexOf(c) >= 0 ? c : NOTHING;
         }
 
-        private void scanWord(int i) {
-            tokens[i] = LETTERS;
-            while (ends[i] < length && isLetter(text[ends[i]])) {
-                ends[i]++;
+        /** The word of the grammar that a token is: null, if it's another. */
+        private Kind wordOf(int i) {
+            for (int k = 0; k < KINDS.length; k++) {
+                if (isWritten(KINDS[k].word, i)) {
+                    return KINDS[k];
+                }
             }
-            for (int k = 0; k < KINDS.length && words[i] == null; k++) {
-                words[i] = isWritten(KINDS[k].word, i) ? KINDS[k] : null;
-            }
+            return null;
         }
 
-        private void scanNumber(int i) {
-            int value = text[starts[i]] - '0';
-            while (ends[i] < length && isDigit(text[ends[i]])) {
-                value = ends[i] - starts[i] < MOST_DIGITS ? value * 10 + text[ends[i]] - '0' : value;
-                ends[i]++;
+        /** A token of more digits than a NUMBER has is none. */
+        private void readDigits(int i) {
+            if (tokens[i] == DIGITS && ends[i] - starts[i] > MOST_DIGITS) {
+                tokens[i] = NOTHING;
             }
-            numbers[i] = value;
-            tokens[i] = ends[i] - starts[i] <= MOST_DIGITS ? DIGITS : NOTHING;
+            numbers[i] = 0;
+            for (int place = starts[i]; place < ends[i] && tokens[i] == DIGITS; place++) {
+                numbers[i] = numbers[i] * 10 + text[place] - '0';
+            }
         }
 
         private boolean isWritten(String other, int i) {
@@ -1944,7 +1951,7 @@ public final class LinenPool {
                 rests[i] = lost * shares[i] % all;
                 left -= parts[i];
             }
-            for (int i = 0; i < left; i++) {
+            for (int i = 0; i < PARTIES && i < left; i++) {
                 int party = greatestRest();
                 parts[party]++;
                 rests[party] = -1;

@@ -2,7 +2,7 @@ import java.util.Random;
 
 /** Runs of 512 calls at random: the class and the model must answer each alike (promises 1 to 46). */
 public final class RandomRunsTest {
-    private static final int RUNS = 300;
+    private static final int RUNS = 1500;
     private static final int CALLS = 512;
 
     private final Check check;
