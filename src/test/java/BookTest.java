@@ -288,6 +288,7 @@ public final class BookTest {
             CHECK.due("45: move, what " + what, pool.told(1, what), move[what - 10]);
         }
         CHECK.due("45: not undone", pool.told(0, 14), -1);
+        CHECK.due("45: the first move", pool.told(0, 12), 11);
         CHECK.due("45: no sheet", pool.told(3, 0), -1);
         CHECK.due("45: no sheet", pool.told(-1, 0), -1);
         CHECK.due("45: no move", pool.told(2, 10), -1);

@@ -234,6 +234,23 @@ public final class EvidenceTest {
         CHECK.due("21: one miss of 1 in 16 at first", pool.doubt(1, 10, 10), 0);
         pool.bag(0, 2);
         CHECK.due("21: two", pool.doubt(1, 10, 10), 1);
+        pool.bag(0, 3);
+        pool.bag(0, 3);
+        pool.lot(1, 5);
+        // 16 to the 4 by 5 to the 4 is 104.9
+        CHECK.due("21: 100 at first is less", pool.doubt(1, 10, 10), 1);
+        for (int i = 0; i < 4; i++) {
+            pool.bag(0, 4);
+        }
+        pool.lot(1, 9);
+        // 16 to the 8 by 9 to the 8 is 99.8
+        CHECK.due("21: 100 at first is not less", pool.doubt(1, 10, 10), 0);
+        pool.beyond(99);
+        CHECK.due("21: 99 is", pool.doubt(1, 10, 10), 1);
+        pool = pool();
+        pool.move(1, 0, 10);
+        pool.bag(0, 1);
+        pool.bag(0, 2);
         pool.beyond(256);
         CHECK.due("21: 256 times 1 is not less than 256", pool.doubt(1, 10, 10), 0);
         pool.beyond(255);
@@ -254,6 +271,9 @@ public final class EvidenceTest {
         CHECK.due("22: not known", pool.lost(0, 0, 10, 9), 0);
         pool.read(0, 0);
         CHECK.due("22: one is read", pool.lost(0, 0, 10, 10), 1);
+        pool.move(1, 3, 11);
+        pool.bag(1, 4);
+        CHECK.due("22: at the other house then", pool.lost(1, 0, 10, 10), 1);
         CHECK.due("22: no house", pool.lost(2, 0, 10, 10), -1);
         CHECK.due("22: no sort", pool.lost(0, 2, 10, 10), -1);
         CHECK.due("22: no day", pool.lost(0, 0, 1001, 10), -1);
@@ -283,6 +303,12 @@ public final class EvidenceTest {
         pool.move(1, 3, 10);
         pool.move(0, 6, 1);
         CHECK.due("24: no counts", pool.shortOf(0, 0, 10, 10), 0);
+        pool.counted(0, 0, 1, 0);
+        CHECK.due("24: the first count", pool.shortOf(0, 0, 10, 10), 1);
+        pool = pool();
+        pool.move(0, 1, 10);
+        pool.move(1, 3, 10);
+        pool.move(0, 6, 1);
         pool.counted(0, 0, 2, 1);
         CHECK.due("24: all there", pool.shortOf(0, 0, 10, 10), 0);
         pool.counted(0, 0, 5, 0);
@@ -293,6 +319,9 @@ public final class EvidenceTest {
         CHECK.due("24: that day too", pool.shortOf(0, 0, 5, 10), 2);
         pool.counted(0, 1, 5, 3);
         CHECK.due("24: more were counted", pool.shortOf(0, 1, 10, 10), 0);
+        pool.move(2, 1, 11);
+        pool.counted(1, 1, 5, 0);
+        CHECK.due("24: at the other house", pool.shortOf(1, 1, 10, 10), 1);
         CHECK.due("24: not known", pool.shortOf(0, 0, 10, 9), 0);
         pool.day(11);
         pool.undo(0);
@@ -328,6 +357,18 @@ public final class EvidenceTest {
             CHECK.due("25: not as told", pool.load(one[0], one[1], one[2], one[3], one[4]), -2);
         }
         CHECK.due("25: most", pool.load(0, 9000, 200, 200, 0), -1);
+        // 130 at 100 to 160 hundredths: from 50 to 65
+        CHECK.due("25: much damp, none", pool.load(0, 130, 100, 160, 0), -1);
+        // 90 at 100 to 125 hundredths: from 40 to 45
+        CHECK.due("25: much damp", pool.load(0, 90, 100, 125, -1), 1);
+        // 46 at 3 to 3 hundredths: from 44.66, cut up to 45, to 44
+        CHECK.due("25: no whole one within", pool.load(0, 46, 3, 3, 0), -1);
+        CHECK.due("25: least of sort 1 is what the rest can't be", pool.load(0, 45, 0, 0, 2), 1);
+        CHECK.due("25: least of sort 0", pool.load(0, 45, 0, 0, 0), 2);
+        CHECK.due("25: greatest of sort 0", pool.load(0, 35, 0, 0, 1), 1);
+        pool.move(1, 2, 11);
+        CHECK.due("25: at the other house", pool.load(1, 10, 0, 0, 1), 1);
+        pool.move(1, 2, 10);
         pool.undo(2);
         CHECK.due("25: as many as are there NOW", pool.load(0, 25, 0, 25, 3), 0);
     }

@@ -9,6 +9,8 @@ public final class PlansTest {
         orderOfNight();
         changes();
         loads();
+        mixesOfNone();
+        leastOfWashers();
         twoOfEach();
         rounds();
         roundsByNoon();
@@ -136,6 +138,8 @@ public final class PlansTest {
         CHECK.due("41: with a change", pool.night(1), 78);
         Texts.take(pool, "mix 0 with 0;mix 1 with 1;mix 0 with 2;mix 4 with 1;mix 999999999 with 0;");
         CHECK.due("41: no mix has both", pool.night(1), 78);
+        Texts.take(pool, "mix 2 with 3;");
+        CHECK.due("41: a mix of others", pool.night(1), 78);
         Texts.take(pool, "mix 0 with 1;mix 2 with 3;");
         CHECK.due("41: a mix", pool.night(1), 68);
         Texts.take(pool, "mix 1 with 0;");
@@ -157,6 +161,36 @@ public final class PlansTest {
         pool.clear();
         pool.job(1, 200, 1440);
         night(pool, 200, 1660, 0, 1660);
+    }
+
+    /** Numbers of no CLASS mix none. */
+    private static void mixesOfNone() {
+        LinenPool pool = new LinenPool();
+        pool.sort(10, 0, 5, 20, 100);
+        pool.sort(10, 2, 5, 20, 100);
+        pool.washer(100, 30, 10);
+        pool.job(0, 10, 1440);
+        pool.job(1, 10, 1440);
+        CHECK.due("41: a change", pool.night(1), 75);
+        Texts.take(pool, "mix 4 with 1;mix 1 with 4;mix 0 with 8;mix 8 with 0;");
+        CHECK.due("41: no such classes", pool.night(1), 75);
+        Texts.take(pool, "mix 2 with 0;");
+        CHECK.due("41: a mix", pool.night(1), 65);
+    }
+
+    /** The first job may go to either washer: to the least, so that the second finds the great one free. */
+    private static void leastOfWashers() {
+        LinenPool pool = pool();
+        pool.washer(100, 30, 0);
+        pool.washer(200, 30, 0);
+        pool.dryers(2);
+        pool.job(0, 10, 1440);
+        pool.job(0, 20, 1440);
+        night(pool, 0, 40, 0, 1, 35, 40);
+        LinenPool small = pool();
+        small.washer(1, 1, 0);
+        small.job(0, 1, 1440);
+        night(small, 0, 15, 0, 15);
     }
 
     private static void twoOfEach() {
@@ -216,6 +250,10 @@ public final class PlansTest {
         CHECK.due("42: the near one, then, first", pool.round(3, 5, 10), 0);
         CHECK.due("42: minutes are from its leaving", pool.round(3, 5, 1), 50);
         CHECK.due("42: both late", pool.round(3, 1440, 0), 2);
+        CHECK.due("42: both late: the fewest minutes", pool.round(3, 1440, 1), 50);
+        pool.house(0, 90, 0, 1440);
+        // out and back, and 5 at each, in whatever order on the way
+        CHECK.due("42: three, LATE alike: the fewest minutes", pool.round(7, 1000, 1), 195);
     }
 
     private static void roundsRefused() {
@@ -260,6 +298,16 @@ public final class PlansTest {
         LinenPool pool = pool();
         pool.house(0, 0, 0, 0);
         CHECK.due("44: nothing is wanted", pool.buy(0, 3, 0), 0);
+        for (int day = 0; day < 7; day++) {
+            pool.want(0, 0, day, 10);
+        }
+        // 10 pieces for 50 coins, back on the third day at first
+        CHECK.due("44: three lots", pool.buy(0, 10, 0), 150);
+        CHECK.due("44: the last of them", pool.buy(0, 10, 3), 1);
+        CHECK.due("44: they come back", pool.buy(0, 10, 4), 0);
+        for (int day = 0; day < 7; day++) {
+            pool.want(0, 0, day, 0);
+        }
         pool.want(0, 0, 0, 4);
         pool.want(0, 0, 1, 8);
         // 10 pieces for 50 coins at first: one lot leaves 6, the next 10 - 2
