@@ -419,8 +419,9 @@ public final class LinenPool {
         int size;
         /** How many pieces of each SORT a LOAD may have at most. */
         final int[] pieces = new int[MOST_SORTS];
-        /** In how many ways each weight comes about. */
+        /** In how many ways each weight up to the heaviest comes about. */
         private final int[] ways = new int[MOST_WEIGHT + 1];
+        private int heaviest;
 
         boolean has(int sort) {
             return within(sort, 0, size - 1);
@@ -467,7 +468,7 @@ public final class LinenPool {
 
         private int waysWithin(int least, int most) {
             int all = 0;
-            for (int weight = Math.max(least, 0); weight <= most; weight++) {
+            for (int weight = Math.max(least, 0); weight <= Math.min(most, heaviest); weight++) {
                 all += ways[weight];
             }
             return all;
@@ -475,21 +476,24 @@ public final class LinenPool {
 
         /** Counts the ways to every weight up to most, without pieces of the SORT that is left out. */
         private void spread(int most, int leftOut) {
-            Arrays.fill(ways, 0);
+            heaviest = 0;
             ways[0] = 1;
-            int top = 0;
             for (int sort = 0; sort < size; sort++) {
                 if (sort != leftOut) {
-                    top = Math.min(most, top + pieces[sort] * grams[sort]);
-                    addPieces(sort, top);
+                    int before = heaviest;
+                    heaviest = Math.min(most, before + pieces[sort] * grams[sort]);
+                    for (int weight = before + 1; weight <= heaviest; weight++) {
+                        ways[weight] = 0;
+                    }
+                    addPieces(sort);
                 }
             }
         }
 
         /** From the top down, so that what lies below still tells the ways without this SORT. */
-        private void addPieces(int sort, int top) {
+        private void addPieces(int sort) {
             int step = grams[sort];
-            for (int weight = top; weight >= step; weight--) {
+            for (int weight = heaviest; weight >= step; weight--) {
                 int all = ways[weight];
                 for (int n = 1; n <= pieces[sort] && n * step <= weight; n++) {
                     all += ways[weight - n * step];
