@@ -19,6 +19,8 @@ public final class LinenPool {
     private static final int LAST_WANTED_DAY = 1010;
     private static final int MOST_BYTES = 400;
     private static final long NO_VALUE = -2_000_000_000_000L;
+    /** More than any minutes, coins or PIECES together: what stands where there is nothing to beat yet. */
+    private static final int BEYOND_ALL = 1_000_000_000;
     private static final Kind[] KINDS = Kind.values();
 
     private final Sorts sorts = new Sorts();
@@ -532,8 +534,8 @@ public final class LinenPool {
         }
 
         void planRound(int set, int start) {
-            bestLate = Integer.MAX_VALUE;
-            bestMinutes = Integer.MAX_VALUE;
+            bestLate = BEYOND_ALL;
+            bestMinutes = BEYOND_ALL;
             visitRest(0, set, start, start, 0);
         }
 
@@ -2084,8 +2086,8 @@ public final class LinenPool {
 
         void plan(int mixesInForce) {
             mixes = mixesInForce;
-            bestLate = Integer.MAX_VALUE;
-            bestEnd = Integer.MAX_VALUE;
+            bestLate = BEYOND_ALL;
+            bestEnd = BEYOND_ALL;
             Arrays.fill(washerFree, 0);
             Arrays.fill(washerClass, NONE);
             Arrays.fill(dryerFree, 0);
@@ -2165,7 +2167,6 @@ public final class LinenPool {
     private static final class Supply {
         static final int MOST_DAYS = 10;
         private static final int MOST_LOTS = 5;
-        private static final int NEVER = 1_000_000_000;
 
         int pieces = 10;
         int coins = 50;
@@ -2193,11 +2194,11 @@ public final class LinenPool {
 
         /** The fewest lots first, so that of several that cost alike they are taken. */
         private void choose(int day, int bought, int there) {
-            fewest[day][bought] = NEVER;
+            fewest[day][bought] = BEYOND_ALL;
             for (int n = 0; n <= MOST_LOTS; n++) {
                 int left = there + n * pieces;
                 int later = fewest[day + 1][bought + n];
-                if (left >= 0 && later < NEVER && n * coins + left * keep + later < fewest[day][bought]) {
+                if (left >= 0 && later < BEYOND_ALL && n * coins + left * keep + later < fewest[day][bought]) {
                     fewest[day][bought] = n * coins + left * keep + later;
                     lots[day][bought] = n;
                 }
@@ -2205,7 +2206,7 @@ public final class LinenPool {
         }
 
         boolean canBe() {
-            return fewest[0][0] < NEVER;
+            return fewest[0][0] < BEYOND_ALL;
         }
 
         int fewestCoins() {

@@ -233,6 +233,67 @@ public final class LanguageTest extends TreePathScanner<Void, Void> {
     }
 
     @Override
+    public Void visitMemberSelect(MemberSelectTree tree, Void none) {
+        Element named = trees.getElement(getCurrentPath());
+        if (named != null && named.getKind() == ElementKind.FIELD
+            && named.getEnclosingElement().toString().startsWith("java.")) {
+            wrong("rule 4: " + tree, tree);
+        }
+        return super.visitMemberSelect(tree, none);
+    }
+
+    @Override
+    public Void visitVariable(VariableTree tree, Void none) {
+        Element named = trees.getElement(getCurrentPath());
+        String type = String.valueOf(trees.getTypeMirror(getCurrentPath()));
+        if (type.endsWith("[][][]") || type.endsWith("[][]") && !type.matches("(int|long|short|byte|double|float).*")) {
+            wrong("rule 3: " + type, tree);
+        }
+        if (type.matches("(java\\.lang\\.)?(Object|Long|Boolean|Character|Double|Number|Short|Byte|Float)\\b.*")) {
+            wrong("rule 3: " + type, tree);
+        }
+        boolean isConstant = named != null && named.getKind() == ElementKind.FIELD
+            && named.getModifiers().contains(Modifier.STATIC);
+        boolean isEach = type.equals("LinenPool.Kind[]")
+            && "Kind.values()".equals(String.valueOf(tree.getInitializer()));
+        boolean isPlain = type.matches("int|long|boolean|char|java\\.lang\\.String|(int|long|char|byte)\\[\\]")
+            || named != null && named.getKind() == ElementKind.ENUM_CONSTANT;
+        if (isConstant && !isEach && !isPlain) {
+            wrong("rule 5: a static field that is " + type, tree);
+        }
+        boolean inEnum = named != null && named.getKind() == ElementKind.FIELD
+            && named.getEnclosingElement().getKind() == ElementKind.ENUM;
+        if (inEnum && !type.matches("int|long|boolean|java\\.lang\\.String")) {
+            wrong("rule 2: an enum's field that is " + type, tree);
+        }
+        return super.visitVariable(tree, none);
+    }
+
+    @Override
+    public Void visitForLoop(ForLoopTree tree, Void none) {
+        checkEnd(tree.getCondition(), tree);
+        return super.visitForLoop(tree, none);
+    }
+
+    @Override
+    public Void visitWhileLoop(WhileLoopTree tree, Void none) {
+        checkEnd(tree.getCondition(), tree);
+        return super.visitWhileLoop(tree, none);
+    }
+
+    @Override
+    public Void visitDoWhileLoop(DoWhileLoopTree tree, Void none) {
+        checkEnd(tree.getCondition(), tree);
+        return super.visitDoWhileLoop(tree, none);
+    }
+
+    private void checkEnd(ExpressionTree condition, Tree loop) {
+        if (condition == null || condition.toString().replaceAll("[()]", "").equals("true")) {
+            wrong("rule 9: a loop without an end of its own", loop);
+        }
+    }
+
+    @Override
     public Void visitThrow(ThrowTree tree, Void none) {
         wrong("rule 6: throw", tree);
         return super.visitThrow(tree, none);
